@@ -44,7 +44,8 @@ public final class RandomRuns {
         int poor = 0;
         for (int kind = 1; kind <= 6; kind++) {
             if (seen[kind] < 100) {
-                System.out.println("letters of kind " + kind + " came only " + seen[kind] + " times");
+                System.out.println("letters of kind " + kind + " came only " + seen[kind]
+                        + " times");
                 poor++;
             }
         }
